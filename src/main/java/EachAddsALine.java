@@ -1756,7 +1756,7 @@ public final class EachAddsALine {
             judge(tale, to);
             for (int k = length - 1; k >= 1; k--) {
                 for (int place = 0; place < 2 * roads.meetings; place++) {
-                    number[k * PLACES + place] = numberAt(k, place);
+                    number[k * PLACES + place] = isRight(k, place) ? numberAt(k, place) : 0;
                 }
             }
         }
@@ -1787,7 +1787,7 @@ public final class EachAddsALine {
                 return NONE;
             }
             int place = roads.placeOf(m, roads.otherAt(m, giver));
-            return isRight(k, place) && number[k * PLACES + place] > 0 ? k * PLACES + place : NONE;
+            return k < length && number[k * PLACES + place] > 0 ? k * PLACES + place : NONE;
         }
 
         long fitting(int from, int hour) {
@@ -1825,6 +1825,9 @@ public final class EachAddsALine {
             boolean isAny = fitting(from, hour) > 0;
             for (int k = length - 1; k >= 1; k--) {
                 for (int place = 0; place < 2 * roads.meetings; place++) {
+                    if (number[k * PLACES + place] == 0) {
+                        continue;
+                    }
                     int getter = roads.getterAt(place);
                     gather(getter, roads.readyAt(place), k + 1);
                     some[k * PLACES + place] = inSome | (1 << getter);

@@ -16,7 +16,7 @@ public final class FuzzTest {
 
     public static void main(String[] args) {
         FuzzTest test = new FuzzTest();
-        for (int run = 0; run < 3000; run++) {
+        for (int run = 0; run < 600; run++) {
             test.run(run);
         }
         test.checks.finish();
