@@ -3,22 +3,11 @@ import java.util.Arrays;
 import java.util.List;
 import java.util.Random;
 
-/** Random roads: every answer about ways, tales and gossip held against all ways told out one by one. */
+/**
+ * Random roads: every answer about ways, tales and gossip held against all ways told out one by one. Objects are
+ * built anew often, as nothing is promised behind 512 calls.
+ */
 public final class BruteForceTest {
-    private static final String[] RULES = {"", "i", "g", "h+g*2-f+l*s/n", "(i<g)+l", "s", "h/3", "-h*i", "0", "n-f*l", "l+(i>1)"};
-    private static final Model.Rule[] SAME = {
-        (i, g, h, n, f, l, s) -> n,
-        (i, g, h, n, f, l, s) -> i,
-        (i, g, h, n, f, l, s) -> g,
-        (i, g, h, n, f, l, s) -> h + g * 2 - f + l * s / n,
-        (i, g, h, n, f, l, s) -> (i < g ? 1 : 0) + l,
-        (i, g, h, n, f, l, s) -> s,
-        (i, g, h, n, f, l, s) -> h / 3,
-        (i, g, h, n, f, l, s) -> -h * i,
-        (i, g, h, n, f, l, s) -> 0,
-        (i, g, h, n, f, l, s) -> n - f * l,
-        (i, g, h, n, f, l, s) -> l + (i > 1 ? 1 : 0)};
-
     private final Checks checks = new Checks("BruteForceTest");
     private final Random random = new Random(11);
     private Model model;
@@ -27,7 +16,7 @@ public final class BruteForceTest {
 
     public static void main(String[] args) {
         BruteForceTest test = new BruteForceTest();
-        for (int run = 0; run < 700; run++) {
+        for (int run = 0; run < 1500; run++) {
             test.run(run);
         }
         test.checks.finish();
@@ -48,7 +37,6 @@ public final class BruteForceTest {
             meetings[m] = new int[] {one, other, random.nextInt(range), random.nextInt(3) == 0 ? 0 : random.nextInt(10)};
         }
         model = new Model(reading, meetings);
-        build();
         List<List<int[]>> all = new ArrayList<>();
         int hour = random.nextInt(3) == 0 ? 0 : random.nextInt(range);
         for (int from = 0; from < people; from++) {
@@ -58,13 +46,17 @@ public final class BruteForceTest {
         for (int from = 0; from < people; from++) {
             for (int to = 0; to < people; to++) {
                 List<int[]> ways = model.waysTo(all.get(from), from, to);
+                build();
                 ways(from, to, hour, ways, all);
                 if (random.nextInt(3) == 0) {
+                    build();
                     tales(from, to, hour, ways, all);
                 }
             }
         }
+        build();
         gossips(hour, all);
+        build();
         latests();
     }
 
@@ -358,9 +350,9 @@ public final class BruteForceTest {
     }
 
     private void tales(int from, int to, int hour, List<int[]> ways, List<List<int[]>> all) {
-        int which = random.nextInt(RULES.length);
-        model.rule = SAME[which];
-        checks.due("rule", Checks.rule(x, RULES[which]), 0);
+        int which = random.nextInt(Model.RULES.length);
+        model.rule = Model.SAME[which];
+        checks.due("rule", Checks.rule(x, Model.RULES[which]), 0);
         int[] tale = someTale(from, ways);
         StringBuilder s = new StringBuilder();
         for (int line : tale) {
@@ -368,7 +360,7 @@ public final class BruteForceTest {
         }
         checks.due("tale", Checks.tale(x, s.toString()), tale.length);
         String told = where;
-        where = where + " rule " + RULES[which] + " tale " + s + " of " + from + to;
+        where = where + " rule " + Model.RULES[which] + " tale " + s + " of " + from + to;
         fits(from, to, hour, tale, ways);
         missing(from, to, hour, tale, ways);
         lies(from, to, hour, tale, ways);

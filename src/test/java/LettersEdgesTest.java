@@ -460,6 +460,17 @@ public final class LettersEdgesTest extends Edges {
         due("the last could hand it back", x.can(0), 256);
     }
 
+    void p17WithAllTwentyMeetings() {
+        fresh("1;1;ab@1;ab@1;ab@1;ab@1;ab@1;ab@1;ab@1;ab@1;ab@1;ab@1");
+        roads("ab@1;ab@1;ab@1;ab@1;ab@1;ab@1;ab@1;ab@1;ab@1;ab@1");
+        x.write(0, 0, 2, 7);
+        due("all are past", x.goes(0, 20), 0);
+        row(0, 2);
+        x.move(19, 0, 2);
+        due("but the last", x.goes(0, 20), 1);
+        row(1, 2);
+    }
+
     void p17FirstByHourThenByNumber() {
         fresh("1;1;1;1;ab@9;ac@5;ad@5;cb@7");
         x.write(0, 0, 0, 7);
@@ -615,6 +626,21 @@ public final class LettersEdgesTest extends Edges {
             row(7, 1, 2, 3);
             due("undo as kept", x.undo(0), 2);
         }
+    }
+
+    void p51LinesAsTheyWereKept() {
+        fresh(ROADS);
+        x.write(0, 0, 4, 7);
+        x.goes(0, 1);
+        x.keep(1);
+        x.write(0, 1, 5, 9);
+        rule("5");
+        x.goes(0, 1);
+        x.again(1);
+        due("lines", x.lines(0), 2);
+        row(7, 1);
+        letter(0, 0, 4, 1, 5, 3);
+        due("check", x.check(0), 1);
     }
 
     void p51BothStandApart() {

@@ -8,6 +8,21 @@ final class Model {
         int of(int i, int g, int h, int n, int f, int l, int s);
     }
 
+    /** Rules as texts, and the same as functions. */
+    static final String[] RULES = {"", "i", "g", "h+g*2-f+l*s/n", "(i<g)+l", "s", "h/3", "-h*i", "0", "n-f*l", "l+(i>1)"};
+    static final Rule[] SAME = {
+        (i, g, h, n, f, l, s) -> n,
+        (i, g, h, n, f, l, s) -> i,
+        (i, g, h, n, f, l, s) -> g,
+        (i, g, h, n, f, l, s) -> h + g * 2 - f + l * s / n,
+        (i, g, h, n, f, l, s) -> (i < g ? 1 : 0) + l,
+        (i, g, h, n, f, l, s) -> s,
+        (i, g, h, n, f, l, s) -> h / 3,
+        (i, g, h, n, f, l, s) -> -h * i,
+        (i, g, h, n, f, l, s) -> 0,
+        (i, g, h, n, f, l, s) -> n - f * l,
+        (i, g, h, n, f, l, s) -> l + (i > 1 ? 1 : 0)};
+
     final int people;
     final int[] reading;
     /** Of each meeting: one, the other, hour, price. */

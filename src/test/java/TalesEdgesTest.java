@@ -190,6 +190,20 @@ public final class TalesEdgesTest extends Edges {
         row(10, 9, 8, 7, 6, 5, 4, 3, 2, 1, 0);
     }
 
+    void p36InsteadOfTheTaleThatWasTold() {
+        fresh(ROADS);
+        x.write(0, 0, 0, 7);
+        x.goes(0, 2);
+        tale("99999");
+        due("three", x.copy(0), 3);
+        due("lines", x.count(3), 3);
+        due("came to c by b", x.fits(0, 2, 0), 1);
+        row(0, 1);
+        tale("012345678901");
+        due("three again", x.copy(0), 3);
+        due("came to c by b", x.fits(0, 2, 0), 1);
+    }
+
     void p36NotTheLaidOne() {
         fresh(ROADS);
         x.write(0, 0, 0, 7);
