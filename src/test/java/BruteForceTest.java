@@ -51,6 +51,7 @@ public final class BruteForceTest {
                 if (random.nextInt(3) == 0) {
                     build();
                     tales(from, to, hour, ways, all);
+                    tales(from, to, hour, ways, all);
                 }
             }
         }

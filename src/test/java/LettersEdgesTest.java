@@ -28,6 +28,23 @@ public final class LettersEdgesTest extends Edges {
         }
     }
 
+    // ---- "An object is used for at most 512 calls after it has been made"
+
+    void p01AnswersUpToThe512thCall() {
+        x.sign(0x313b313b);
+        x.sign(0x3b616240);
+        x.sign(0x31000000);
+        x.end(9);
+        due("call 5", x.roads(), 3);
+        due("call 6", x.write(0, 0, 0, 7), true);
+        for (int call = 7; call < 511; call += 2) {
+            due("call " + call, x.hand(0, 0), 1);
+            due("call " + (call + 1), x.undo(0), 0);
+        }
+        due("call 511", x.hand(0, 0), 1);
+        due("call 512", x.soonest(0, 1, 0), 1);
+    }
+
     // ---- promise 11: write
 
     void p11LettersAre0To2() {
@@ -196,6 +213,28 @@ public final class LettersEdgesTest extends Edges {
         due("taken out", x.undo(0), 28);
         x.move(1, 0, 60);
         due("room again", x.hand(0, 1), 9);
+    }
+
+    void p12ThirtyLinesOfEachLetter() {
+        toAndFro(30);
+        x.write(2, 0, 0, 5);
+        x.move(0, 0, 50);
+        x.move(1, 0, 60);
+        due("letter 0 is full", x.hand(0, 0), -4);
+        due("letter 2 is not", x.hand(2, 0), 1);
+        due("letter 2 can go on", x.can(2), 2);
+        due("letter 0 can't", x.can(0), 0);
+        x.write(0, 0, 0, 5);
+        x.write(2, 0, 0, 5);
+        for (int k = 1; k < 30; k++) {
+            x.move(k % 2, 0, k);
+            due("hand " + k, x.hand(2, k % 2), k % 10);
+        }
+        x.move(0, 0, 60);
+        due("now letter 2 is full", x.hand(2, 0), -4);
+        due("letter 2 can't go on", x.can(2), 0);
+        due("letter 2 does not go on", x.goes(2, 20), 0);
+        due("letter 0 has room", x.hand(0, 0), 1);
     }
 
     void p12AskedInThisOrder() {

@@ -304,6 +304,35 @@ public final class TalesEdgesTest extends Edges {
         due("ten are too few", x.fits(0, 1, 21), 0);
     }
 
+    void p37AShorterTaleBehindALongerOne() {
+        fresh("1;1;1;1;ab@1;bc@2;cd@3;da@4");
+        rule("i");
+        tale("5123");
+        due("to d", x.fits(0, 3, 0), 1);
+        due("to d", x.sure(0, 3, 0), 15);
+        due("none left it out", x.missing(0, 3, 0), 0);
+        tale("512");
+        due("to c", x.fits(0, 2, 0), 1);
+        row(0, 1);
+        due("to c", x.sure(0, 2, 0), 7);
+        row(7);
+        due("a left it out", x.missing(0, 0, 0), 0);
+        due("d left it out", x.missing(0, 3, 0), 1);
+        row(8);
+        tale("51");
+        due("to b", x.sure(0, 1, 0), 3);
+        row(3);
+        due("to b", x.lies(0, 1, 0), 0);
+        row(0);
+        due("c left it out", x.missing(0, 2, 0), 1);
+        row(4);
+        tale("5");
+        due("to a", x.sure(0, 0, 0), 1);
+        row(1);
+        due("b left it out", x.missing(0, 1, 0), 1);
+        row(2);
+    }
+
     void p37AtTheHourItIsWritten() {
         fresh("9;9;ab@50");
         tale("71");
