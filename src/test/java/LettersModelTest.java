@@ -24,7 +24,7 @@ public final class LettersModelTest {
 
     public static void main(String[] args) {
         LettersModelTest test = new LettersModelTest();
-        for (int run = 0; run < 6000; run++) {
+        for (int run = 0; run < 10000; run++) {
             test.run(run);
         }
         test.checks.finish();
@@ -57,8 +57,8 @@ public final class LettersModelTest {
         kept.set(1, null);
         row = NOTHING;
         where = "run " + run + " " + model.text() + ";" + model.meetingText(0, count);
-        calls = 40;
-        while (calls < 400) {
+        calls = 80;
+        while (calls < 260) {
             step();
         }
     }
